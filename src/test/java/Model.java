@@ -194,6 +194,10 @@ final class Model {
         return true;
     }
 
+    int lastDay() {
+        return days.isEmpty() ? 0 : days.get(days.size() - 1);
+    }
+
     private int endDay() {
         return end != null ? end : days.get(days.size() - 1);
     }

@@ -1,6 +1,6 @@
 /** Long runs of made-up calls: each answer of the program is the model's; wrong inputs and refused calls among them. */
 public final class ModelTest {
-    private static final int RUNS = 600;
+    private static final int RUNS = 2000;
     private static final int CALLS = 480;
     private static final int[] FAR = {Integer.MIN_VALUE, Integer.MIN_VALUE + 1, -1000001, -100001, -1001, -1, 0, 1, 7, 8,
         12, 40, 1001, 5001, 20001, 40001, 100001, 1000001, Integer.MAX_VALUE - 1, Integer.MAX_VALUE};
@@ -18,11 +18,11 @@ public final class ModelTest {
 
     public static void main(String[] args) {
         for (int run = 0; run < RUNS; run++) {
-            parts = pick(0, 7);
+            parts = next(8) == 0 ? pick(0, 7) : pick(2, 6);
             x = new StageSteps(parts);
             m = new Model(parts);
             bests = 0;
-            int givens = run % 3 == 0 ? 0 : 150;
+            int givens = run % 3 == 0 ? 0 : 120;
             for (int call = 0; call < CALLS; call++) {
                 one(run, call < givens ? pick(0, 5) : pick(0, 99));
             }
@@ -36,7 +36,7 @@ public final class ModelTest {
     }
 
     private static int pick(int low, int high) {
-        return next(30) == 0 ? FAR[next(FAR.length)] : low + next(high - low + 1);
+        return next(60) == 0 ? FAR[next(FAR.length)] : low + next(high - low + 1);
     }
 
     /** A number of the range, its bounds and what is just beyond them more often than others. */
@@ -119,27 +119,25 @@ public final class ModelTest {
     private static void build(int run, int kind) {
         int a = aPart();
         if (kind < 14) {
-            int last = m.told(0) == 0 ? 0 : (int) m.told(5);
-            int day = next(10) == 0 ? edge(0, 20000) : last + pick(-1, 12);
-            if (next(6) == 0) {
+            int day = next(40) == 0 ? edge(0, 20000) : m.lastDay() + pick(-1, 12);
+            if (next(3) == 0) {
                 due(run, "stage(" + day + ")", x.stage(day), m.stage(day));
             }
         } else if (kind < 24) {
             due(run, "add(" + a + ")", x.add(a), m.add(a));
         } else if (kind < 34) {
             int tonnes = edge(-1000, 1000);
-            if (next(3) == 0) {
+            if (next(2) == 0) {
                 due(run, "load(" + a + ", " + tonnes + ")", x.load(a, tonnes), m.load(a, tonnes));
             }
         } else if (kind < 44) {
             int k = pick(0, 2);
             boolean on = next(2) == 0;
-            if (next(3) == 0) {
+            if (next(2) == 0) {
                 due(run, "support(" + k + ", " + on + ")", x.support(k, on), m.support(k, on));
             }
         } else {
-            int last = m.told(0) == 0 ? 0 : (int) m.told(5);
-            int day = next(8) == 0 ? edge(0, 40000) : last + pick(-15, 30);
+            int day = next(8) == 0 ? edge(0, 40000) : m.lastDay() + pick(-5, 60);
             due(run, "end(" + day + ")", x.end(day), m.end(day));
         }
     }
@@ -148,10 +146,11 @@ public final class ModelTest {
         int stage = aStage();
         int a = aPart();
         if (kind < 53) {
-            int days = next(8) == 0 ? edge(-20000, 20000) : pick(-12, 12);
+            int days = next(40) == 0 ? edge(-20000, 20000) : pick(-12, 12);
             due(run, "shift(" + stage + ", " + days + ")", x.shift(stage, days), m.shift(stage, days));
         } else if (kind < 54) {
-            if (next(3) == 0) {
+            // in some runs stages seldom go, so that plans grow to their bounds
+            if (next(run % 4 == 0 ? 2 : 8) == 0) {
                 due(run, "redo(" + stage + ")", x.redo(stage), m.redo(stage));
             }
         } else if (kind < 58) {

@@ -235,6 +235,13 @@ public final class PlanTest {
         }
         Due.is("20: nothing was done", x.told(5), 20000);
         Due.none("20: nothing was done", x.stage(20000));
+        StageSteps y = new StageSteps(2);
+        for (int k = 0; k < 12; k++) {
+            y.stage(k);
+        }
+        Due.yes("20: all of 12 stages", y.shift(0, 19989));
+        Due.is("20: the last of them", y.told(5), 20000);
+        Due.no("20: none can go on", y.shift(11, 1));
     }
 
     private static void shiftMovesEvents() {
