@@ -612,8 +612,7 @@ public final class StageSteps {
                 int what = plan.whats[a];
                 switch (plan.kinds[a]) {
                     case ADD:
-                        there |= 1 << row[added];
-                        press(stage, row[added], givens.weights[row[added]]);
+                        comeIn(stage, row[added]);
                         added++;
                         break;
                     case LOAD:
@@ -653,6 +652,12 @@ public final class StageSteps {
             for (int k = 0; k < plan.adds; k++) {
                 addedIn[row[k]] = plan.addStages[k];
             }
+        }
+
+        /** There before its weight presses: an added part goes up by that, too. */
+        private void comeIn(int stage, int part) {
+            there |= 1 << part;
+            press(stage, part, givens.weights[part]);
         }
 
         private void press(int stage, int part, int tonnes) {
