@@ -10,47 +10,14 @@ public final class RefusalTest {
     public static void main(String[] args) {
         StageSteps plain = new StageSteps(4);
         StageSteps told = new StageSteps(4);
-        build(plain);
-        build(told);
+        Bridges.busy(plain);
+        Bridges.busy(told);
         refuseGivens(told);
         refusePlan(told);
         refuseRest(told);
         Due.yes("what is refused changes nothing", State.of(plain).equals(State.of(told)));
         emptyPlan();
         Due.finish("RefusalTest");
-    }
-
-    private static void build(StageSteps x) {
-        for (int i = 0; i < 4; i++) {
-            x.part(i, 10 + i, 100 * i);
-            for (int j = 0; j < 4; j++) {
-                x.flex(0, i, j, i - 3 * j + 1);
-                x.flex(5, i, j, 2 * i - j + 1);
-            }
-            x.share(0, i, 300 + i);
-            x.share(2, i, 200 - i);
-            x.release(0, i, 3 + i);
-        }
-        x.creep(3, 20);
-        x.creep(9, 70);
-        x.after(1, 3);
-        x.stage(2);
-        x.add(1);
-        x.load(1, 30);
-        x.support(0, true);
-        x.support(2, true);
-        x.stage(8);
-        x.add(3);
-        x.load(3, -5);
-        x.stage(13);
-        x.support(0, false);
-        x.add(0);
-        x.end(60);
-        x.survey(1, 0, 130);
-        x.most(7);
-        x.rule(0, 1, 0, 99);
-        x.rule(1, 0, -5, 5);
-        x.best();
     }
 
     private static void refuseGivens(StageSteps x) {
