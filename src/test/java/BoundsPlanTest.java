@@ -309,26 +309,25 @@ public final class BoundsPlanTest {
         }).does(0, "redo", 3).does(2, "redo", 2);
     }
 
+    /** Part p - 1 - i is added in stage i; from each stage on they go, and are added again in the stage before. */
     private static void redoOffsets() {
-        StageSteps x = new StageSteps(4);
-        x.stage(1);
-        x.add(0);
-        x.stage(2);
-        x.add(1);
-        x.stage(3);
-        x.add(2);
-        x.add(3);
-        x.survey(0, 0, 100);
-        x.redo(2);
-        Due.is("21: added before, it keeps its offset", x.of(1, 2), 95000000000L);
-        Due.yes("21: it may be added again, in the stage before", x.add(3));
-        Due.yes("21: it may be added again, in the stage before", x.add(2));
-        Due.is("21: offsets of parts that were added there are 0", x.of(2, 2), 0);
-        Due.is("21: offsets of parts that were added there are 0", x.of(3, 2), 0);
-        x.redo(1);
-        x.stage(2);
-        x.add(1);
-        Due.is("21: from the very stage on", x.of(1, 2), 0);
+        for (int from = 1; from <= 5; from++) {
+            StageSteps x = new StageSteps(6);
+            for (int i = 0; i < 6; i++) {
+                x.stage(i);
+                x.add(5 - i);
+            }
+            x.survey(5, 0, 100);
+            Due.is("21: one act a stage, from " + from, x.redo(from), 6 - from);
+            for (int i = from; i < 6; i++) {
+                Due.none("21: it is not added, from " + from, x.of(5 - i, 2));
+                Due.yes("21: it may be added again, from " + from, x.add(5 - i));
+            }
+            for (int i = 1; i < 6; i++) {
+                Due.is("21: offsets of parts that were added there are 0, others stay, from " + from + ": part " + (5 - i),
+                        x.of(5 - i, 2), i >= from ? 0 : (100 - 5 * i) * 1000000000L);
+            }
+        }
     }
 
     private static void redoMakesRoom() {

@@ -30,6 +30,7 @@ public final class BoundsTermsTest {
         allowedByLoads();
         allowedByAfter();
         bestOfSeveral();
+        bestOfThePlansParts();
         asIfToldBefore();
         latterCounts();
         Due.finish("BoundsTermsTest");
@@ -484,6 +485,30 @@ public final class BoundsTermsTest {
             Due.is("22: the least greatest size, without its sign, case " + k, x.best(), least * 1000000L);
             Due.is("23: of several the first row, case " + k, x.order(0), first[k]);
         }
+    }
+
+    /** Parts 0 and 2 would creep by far more than part 1, but are not added, or no more. */
+    private static void bestOfThePlansParts() {
+        StageSteps x = new StageSteps(3);
+        x.flex(0, 0, 1, 1000);
+        x.flex(0, 1, 1, -1);
+        x.flex(0, 2, 1, -1000);
+        x.creep(0, 1);
+        x.creep(5, 5000);
+        x.stage(0);
+        x.add(1);
+        x.load(1, 1);
+        x.end(9);
+        Due.is("22: of cambers of parts that the plan adds", x.best(), 6000000L);
+        x.stage(1);
+        x.add(2);
+        x.add(0);
+        x.end(9);
+        Due.is("22: all three are added", x.best(), 4999000000L);
+        Due.is("23: the first of equals", x.order(1), 0);
+        x.redo(1);
+        Due.is("22: they went", x.best(), 6000000L);
+        Due.none("23: they went", x.order(1));
     }
 
     private static void asIfToldBefore() {

@@ -3,7 +3,7 @@ import java.lang.management.ManagementFactory;
 
 /** The dearest calls, 512 on one object: they end, they do not throw, and they make nothing. */
 public final class RoomTest {
-    private static final long FEW_BYTES = 200000;
+    private static final long FEW_BYTES = 1000000;
 
     private RoomTest() {
     }
