@@ -92,22 +92,22 @@ public final class BoundsPlanTest {
     }
 
     private static void addComesAfter() {
-        Bound.of(9, "one that it must come after is not", 4, x -> {
-            x.after(0, 2);
-            x.after(1, 2);
-            x.after(2, 3);
-            x.stage(5);
-            x.add(0);
-        }).refuses("add", 2).refuses("add", 3).takes("add", 1);
+        Bound.of(9, "one that it must come after is not", 4, BoundsPlanTest::waiting)
+            .refuses("add", 2).refuses("add", 3).takes("add", 1);
         Bound.of(9, "all that it must come after are", 4, x -> {
-            x.after(0, 2);
-            x.after(1, 2);
-            x.after(2, 3);
-            x.stage(5);
-            x.add(0);
+            waiting(x);
             x.stage(6);
             x.add(1);
         }).takes("add", 2).refuses("add", 3);
+    }
+
+    /** 2 must come after 0 and 1, 3 after 2; 0 is there. */
+    private static void waiting(StageSteps x) {
+        x.after(0, 2);
+        x.after(1, 2);
+        x.after(2, 3);
+        x.stage(5);
+        x.add(0);
     }
 
     private static void addNoRoom() {
