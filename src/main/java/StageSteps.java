@@ -612,7 +612,9 @@ public final class StageSteps {
                 int what = plan.whats[a];
                 switch (plan.kinds[a]) {
                     case ADD:
-                        comeIn(stage, row[added]);
+                        // there before its weight presses: an added part goes up by that, too
+                        there |= 1 << row[added];
+                        press(stage, row[added], givens.weights[row[added]]);
                         added++;
                         break;
                     case LOAD:
@@ -652,12 +654,6 @@ public final class StageSteps {
             for (int k = 0; k < plan.adds; k++) {
                 addedIn[row[k]] = plan.addStages[k];
             }
-        }
-
-        /** There before its weight presses: an added part goes up by that, too. */
-        private void comeIn(int stage, int part) {
-            there |= 1 << part;
-            press(stage, part, givens.weights[part]);
         }
 
         private void press(int stage, int part, int tonnes) {
@@ -738,7 +734,9 @@ public final class StageSteps {
         /** Which parts the row takes, and has, are bits. */
         private void tryFrom(int k, int taken, int used) {
             if (k >= plan.adds || k >= MAX_PARTS) {
-                weigh();
+                if (walk.go(tried)) {
+                    keepIfLess(walk.greatestSize());
+                }
                 return;
             }
             for (int part = 0; part < givens.parts; part++) {
@@ -749,12 +747,8 @@ public final class StageSteps {
             }
         }
 
-        private void weigh() {
-            if (!walk.go(tried)) {
-                return;
-            }
-            long size = walk.greatestSize();
-            // only a lesser one takes the place: of equal ones the first row stays
+        /** Only a lesser one takes the place: of equal ones the first row stays. */
+        private void keepIfLess(long size) {
             if (least < 0 || size < least) {
                 least = size;
                 foundCount = plan.adds;
