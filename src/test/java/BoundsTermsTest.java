@@ -26,6 +26,7 @@ public final class BoundsTermsTest {
         towardsZero();
         towardsZeroBelow();
         towardsZeroByMost();
+        towardsZeroByNothing();
         ruleBounds();
         allowedByLoads();
         allowedByAfter();
@@ -387,6 +388,16 @@ public final class BoundsTermsTest {
             Due.is("16: no error, instead of their own", x.survey(1, 1, 0), 0);
             Due.is("16: no error, MOST " + mosts[k], x.of(2, 2), 0);
             Due.is("16: no error, MOST " + mosts[k], x.of(3, 2), 0);
+        }
+    }
+
+    private static void towardsZeroByNothing() {
+        for (int tiny = -1; tiny <= 1; tiny++) {
+            StageSteps x = lower(tiny);
+            x.most(0);
+            Due.is("16: the least error", x.survey(0, 1, 50), tiny);
+            Due.is("17: made smaller by 0", x.of(2, 2), tiny);
+            Due.is("17: made smaller by twice 0", x.of(3, 2), tiny);
         }
     }
 

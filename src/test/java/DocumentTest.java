@@ -9,7 +9,6 @@ public final class DocumentTest {
         fiveHundredAndTwelveCalls();
         twoObjects();
         bestLeavesThePlan();
-        errorsOfAThousandMillionth();
         partsAddedBehindTheSurvey();
         offsetsAreNotOfThePlan();
         endOnTheLastStagesOwnDay();
@@ -53,31 +52,6 @@ public final class DocumentTest {
         Bridges.busy(x);
         long least = x.best();
         Bound.of(22, "finds the best order", 4, Bridges::busy).tells(least, "best");
-    }
-
-    /** Part 0 is at the end of stage 1 by a thousand millionth of a millimetre lower, or higher, than a whole one. */
-    private static void errorsOfAThousandMillionth() {
-        for (int sign = -1; sign <= 1; sign += 2) {
-            StageSteps x = new StageSteps(3);
-            x.share(0, 1, 1);
-            x.release(0, 0, sign);
-            x.creep(10, 1);
-            x.stage(0);
-            x.support(0, true);
-            x.add(1);
-            x.load(1, 1);
-            x.stage(1);
-            x.add(0);
-            x.support(0, false);
-            x.stage(11);
-            x.add(2);
-            x.most(0);
-            Due.is("16: the least error", x.survey(0, 1, 0), sign);
-            Due.is("17: made smaller by nothing", x.of(2, 2), sign);
-            x.most(1);
-            Due.is("16: the least error", x.survey(0, 1, 0), sign);
-            Due.is("16: towards 0, not beyond", x.of(2, 2), 0);
-        }
     }
 
     private static void partsAddedBehindTheSurvey() {
